@@ -525,13 +525,12 @@ public final class BraidCourt {
     return value > 0 ? 1 : -1;
   }
 
-  /** Where a strand is after a letter that was at a position before it. */
-  private static int positionAfter(int letter, int position) {
-    int left = indexOf(letter);
-    if (position == left) {
-      return left + 1;
+  /** Where a strand is after a letter of an index that was at a position before it. */
+  private static int positionAfter(int index, int position) {
+    if (position == index) {
+      return index + 1;
     }
-    return position == left + 1 ? left : position;
+    return position == index + 1 ? index : position;
   }
 
   /** Where the handle begins that ends at a position, NONE if no handle ends there. */
@@ -612,7 +611,7 @@ public final class BraidCourt {
     int endOf(int begin) {
       int position = begin;
       for (int i = 0; i < length; i++) {
-        position = positionAfter(letters[i], position);
+        position = positionAfter(indexOf(letters[i]), position);
       }
       return position;
     }
@@ -653,11 +652,12 @@ public final class BraidCourt {
       int second = secondBegin;
       int sum = 0;
       for (int i = 0; i < length; i++) {
-        int firstAfter = positionAfter(letters[i], first);
+        int index = indexOf(letters[i]);
+        int firstAfter = positionAfter(index, first);
         if (first != second && firstAfter == second) {
           sum += signOf(letters[i]);
         }
-        second = positionAfter(letters[i], second);
+        second = positionAfter(index, second);
         first = firstAfter;
       }
       return sum;
@@ -778,7 +778,7 @@ public final class BraidCourt {
       int replaced = indexOf(done[handle]) + 1;
       int count = 0;
       for (int i = handle + 1; i < doneLength - 1; i++) {
-        if (indexOf(done[i]) == replaced) {
+        if (done[i] == replaced || done[i] == -replaced) {
           count++;
         }
       }

@@ -12,6 +12,7 @@ public final class AllTests {
     TextsTest.run();
     DenialsTest.run();
     UndoTest.run();
+    RelaxerTest.run();
     RandomRunsTest.run();
     if (!Check.report()) {
       System.exit(1);

@@ -19,7 +19,7 @@ public final class PlainCourt {
     }
   }
 
-  private static final class Relaxation {
+  static final class Relaxation {
     String word;
     int handles;
     boolean fails;

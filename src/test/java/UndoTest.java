@@ -14,6 +14,7 @@ final class UndoTest {
     untouched();
     snapshots();
     snapshotAndUndo();
+    snapshotOfPrecedents();
   }
 
   private static void nothingToUndo() {
@@ -159,5 +160,19 @@ final class UndoTest {
     court.cross(0, 'c');
     Check.same("51 a change leaves the snapshot", 1, court.restoreSnapshot());
     Check.same("51 its word again", "a", Check.word(court, 0));
+  }
+
+  private static void snapshotOfPrecedents() {
+    BraidCourt court = Check.court("a", "b");
+    court.decide(0);
+    court.saveSnapshot();
+    court.undo();
+    court.decide(1);
+    court.restoreSnapshot();
+    Check.answers("51 the precedent has its braid again", 0, () -> court.findPrecedent(0));
+    Check.refuses("51 and not the later one", java.util.NoSuchElementException.class,
+        () -> court.findPrecedent(1));
+    Check.same("51 the case rests on it", 0, court.precedentOf(0));
+    Check.same("51 the other case is undecided", false, court.isDecided(1));
   }
 }
