@@ -3,7 +3,7 @@ import java.util.Objects;
 /** Counts what the tests find, and makes courts for them. */
 final class Check {
   interface Call {
-    Object make();
+    Object make() throws ReflectiveOperationException;
   }
 
   private static int passed = 0;
@@ -16,7 +16,7 @@ final class Check {
     Object got;
     try {
       got = call.make();
-    } catch (RuntimeException thrown) {
+    } catch (RuntimeException | ReflectiveOperationException thrown) {
       got = "throws " + thrown.getClass().getName();
     }
     same(what, want, got);
@@ -26,7 +26,7 @@ final class Check {
     Object got;
     try {
       got = "answers " + call.make();
-    } catch (RuntimeException thrown) {
+    } catch (RuntimeException | ReflectiveOperationException thrown) {
       got = thrown.getClass();
     }
     same(what, want, got);
@@ -61,7 +61,8 @@ final class Check {
 
   static String word(BraidCourt court, int number) {
     StringBuilder word = new StringBuilder();
-    for (int i = 0; i < court.wordLength(number); i++) {
+    int length = court.wordLength(number);
+    for (int i = 0; i < length; i++) {
       word.append(court.letterAt(number, i));
     }
     return word.toString();

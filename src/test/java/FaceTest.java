@@ -78,10 +78,11 @@ final class FaceTest {
     for (Field field : court.getDeclaredFields()) {
       Check.same("face: " + field + " is private", true, isPrivate(field));
     }
+    noNameOfTheFace(court);
     for (Class<?> inner : court.getDeclaredClasses()) {
-      Check.same("face: " + inner + " is private and static",
-          Modifier.PRIVATE | Modifier.STATIC,
-          inner.getModifiers() & (Modifier.PRIVATE | Modifier.STATIC));
+      int open = inner.getModifiers() & (Modifier.PUBLIC | Modifier.PROTECTED);
+      Check.same("face: " + inner + " is private or package-visible", 0, open);
+      Check.same("face: " + inner + " is static", true, Modifier.isStatic(inner.getModifiers()));
       noNameOfTheFace(inner);
     }
   }
@@ -96,10 +97,10 @@ final class FaceTest {
     return methods;
   }
 
-  private static void noNameOfTheFace(Class<?> inner) {
-    for (Method method : inner.getDeclaredMethods()) {
+  private static void noNameOfTheFace(Class<?> type) {
+    for (Method method : type.getDeclaredMethods()) {
       for (String line : FACE) {
-        boolean same = line.contains(" " + method.getName() + "(");
+        boolean same = isPrivate(method) && line.contains(" " + method.getName() + "(");
         Check.same("face: " + method + " bears no public name", false, same);
       }
     }

@@ -7,7 +7,7 @@ import java.util.Random;
 
 /** Runs of 512 calls, chosen by fixed seeds, on the program and on PlainCourt at once. */
 final class RandomRunsTest {
-  private static final int RUNS = 300;
+  private static final int RUNS = 400;
   private static final int CALLS = 512;
   private static final String LETTERS = "abcdABCD";
   private static final String[] CHANGES = {"openCase", "cross", "cross", "cross", "cutLast",
@@ -17,6 +17,7 @@ final class RandomRunsTest {
   private final BraidCourt court = new BraidCourt();
   private final PlainCourt plain = new PlainCourt();
   private final List<Method> methods = new ArrayList<>();
+  private int calls = 0;
   private String fault = null;
 
   private RandomRunsTest(long seed) {
@@ -40,7 +41,7 @@ final class RandomRunsTest {
     if (bias > 0) {
       fill();
     }
-    for (int i = 0; i < CALLS && fault == null; i++) {
+    while (calls < CALLS && fault == null) {
       if (random.nextInt(12) == 0) {
         feedText();
       } else if (random.nextInt(3) < bias) {
@@ -128,9 +129,10 @@ final class RandomRunsTest {
   }
 
   private void call(Method method, Object... arguments) {
-    if (fault != null) {
+    if (fault != null || calls == CALLS) {
       return;
     }
+    calls++;
     String due = answer(plain, method, arguments);
     String got = answer(court, method, arguments);
     if (!due.equals(got)) {

@@ -37,7 +37,8 @@ final class TextsTest {
         () -> Check.execute(court, "decide 0;appeal 0;decide 1"));
     Check.same("40 the verdict after the appeal", false, court.isTangled(0));
     Check.same("40 the precedent", 1, court.precedentOf(1));
-    Check.answers("40 relax", 4, () -> Check.execute(court, "cross 2 A;cross 2 b;cross 2 a;relax 2"));
+    Check.answers("40 relax", 4,
+        () -> Check.execute(court, "cross 2 A;cross 2 b;cross 2 a;relax 2"));
     Check.same("40 relaxed", "baB", Check.word(court, 2));
     Check.answers("40 cancel", 2, () -> Check.execute(court, "cross 2 b;cancel 2"));
     Check.same("40 cancelled", "ba", Check.word(court, 2));
