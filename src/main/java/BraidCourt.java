@@ -34,13 +34,13 @@ public final class BraidCourt {
   private static final int COMMAND_FAILED = 7;
   private static final int NO_SUCH_CASE = 8;
 
-  private final Docket docket = new Docket();
+  private final Judge judge = new Judge();
+  private final Docket docket = judge.docket;
+  private final Relaxer relaxer = judge.relaxer;
   private final Docket backup = new Docket();
   private final Docket snapshot = new Docket();
   private final History history = new History();
-  private final Relaxer relaxer = new Relaxer();
   private final Curve curve = new Curve();
-  private final Judge judge = new Judge(docket, relaxer);
   private final Script script = new Script();
   private final char[] line = new char[MAX_LINE];
   private int lineLength = 0;
@@ -755,13 +755,13 @@ public final class BraidCourt {
     /** Reduces the handle at the end of what is done; its inner part is ahead afterwards. */
     private void reduce(int handle) {
       int first = done[handle];
-      int lengthAfter = doneLength + aheadLength - 2 + 2 * countReplaced(handle);
+      int index = indexOf(first);
+      int lengthAfter = doneLength + aheadLength - 2 + 2 * countInside(handle, index + 1);
       if (reductions >= MAX_REDUCTIONS || lengthAfter > MAX_RELAXED) {
         failed = true;
         return;
       }
       reductions++;
-      int index = indexOf(first);
       for (int i = doneLength - 2; i > handle; i--) {
         if (indexOf(done[i]) == index + 1) {
           push(signOf(first) * (index + 1));
@@ -774,11 +774,11 @@ public final class BraidCourt {
       doneLength = handle;
     }
 
-    private int countReplaced(int handle) {
-      int replaced = indexOf(done[handle]) + 1;
+    /** How many letters of an index are between the first and the last letter of the handle. */
+    private int countInside(int handle, int index) {
       int count = 0;
       for (int i = handle + 1; i < doneLength - 1; i++) {
-        if (done[i] == replaced || done[i] == -replaced) {
+        if (done[i] == index || done[i] == -index) {
           count++;
         }
       }
@@ -1018,15 +1018,10 @@ public final class BraidCourt {
 
   /** Says what stands against a command, performs it, and compares the braids of cases. */
   private static final class Judge {
-    private final Docket docket;
-    private final Relaxer relaxer;
+    private final Docket docket = new Docket();
+    private final Relaxer relaxer = new Relaxer();
     private final Curve curve = new Curve();
     private final Curve otherCurve = new Curve();
-
-    Judge(Docket docket, Relaxer relaxer) {
-      this.docket = docket;
-      this.relaxer = relaxer;
-    }
 
     /** The denial of a command, ALLOWED if there is none. */
     int objectionTo(Command command, int number) {

@@ -1,6 +1,7 @@
 /** Runs every test of the project; exits with 1 if one fails. */
 public final class AllTests {
   private static final long MINUTES = 5;
+  private static final int PROMISES = 51;
 
   private AllTests() {
   }
@@ -23,8 +24,10 @@ public final class AllTests {
     run("TextEdgesTest", TextEdgesTest::run);
     run("DenialEdgesTest", DenialEdgesTest::run);
     run("UndoEdgesTest", UndoEdgesTest::run);
+    run("ReadmeTest", ReadmeTest::run);
     run("RelaxerTest", RelaxerTest::run);
     run("RandomRunsTest", RandomRunsTest::run);
+    everyPromiseIsChecked();
     System.exit(Check.report() ? 0 : 1);
   }
 
@@ -34,6 +37,12 @@ public final class AllTests {
     } catch (RuntimeException thrown) {
       Check.same(name + " ends", "ended", thrown + " at " + thrown.getStackTrace()[0]);
       thrown.printStackTrace(System.out);
+    }
+  }
+
+  private static void everyPromiseIsChecked() {
+    for (int promise = 1; promise <= PROMISES; promise++) {
+      Check.same("promise " + promise + " is checked", true, Check.hasChecked(promise));
     }
   }
 

@@ -1,4 +1,6 @@
 import java.util.Objects;
+import java.util.Set;
+import java.util.TreeSet;
 
 /** Counts what the tests find, and makes courts for them. */
 final class Check {
@@ -6,6 +8,7 @@ final class Check {
     Object make() throws ReflectiveOperationException;
   }
 
+  private static final Set<String> BEGINNINGS = new TreeSet<>();
   private static int passed = 0;
   private static int failed = 0;
 
@@ -33,12 +36,18 @@ final class Check {
   }
 
   static void same(String what, Object want, Object got) {
+    BEGINNINGS.add(what.split(" ", 2)[0]);
     if (Objects.equals(want, got)) {
       passed++;
     } else {
       failed++;
       System.out.println(what + ": due is " + want + ", but it is " + got);
     }
+  }
+
+  /** Whether there was a check of a promise, which begins with the promise's number. */
+  static boolean hasChecked(int promise) {
+    return BEGINNINGS.contains(Integer.toString(promise));
   }
 
   /** Prints the counts; returns whether nothing failed. */
